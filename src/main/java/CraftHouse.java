@@ -594,9 +594,6 @@ public final class CraftHouse {
         static final long NOT_MENDED = 1L;
         private static final int DIVISOR = 0xC5;
 
-        private Blocks() {
-        }
-
         static byte[] noise() {
             byte[] row = new byte[Maker.FRAME_BYTES];
             int latest = 0xFF;
@@ -765,7 +762,6 @@ public final class CraftHouse {
         private final int[] size;
         private final int[] tag;
         private final int[] mark;
-        private int end;
         int count;
         int used;
 
@@ -787,7 +783,7 @@ public final class CraftHouse {
         }
 
         boolean hasRoom(int bytes) {
-            return hasPlace() && bytes <= row.length - used;
+            return count < start.length && bytes <= row.length - used;
         }
 
         /** Bytes begin .. begin + n - 1 of a row become the last packet; whether there was room. */
@@ -795,47 +791,36 @@ public final class CraftHouse {
             if (n < 0 || begin < 0 || begin > from.size - n || !hasRoom(n)) {
                 return false;
             }
-            if (n > row.length - end) {
-                closeUp();
-            }
-            System.arraycopy(from.row, begin, row, end, n);
-            start[count] = end;
+            System.arraycopy(from.row, begin, row, used, n);
+            start[count] = used;
             size[count] = n;
             tag[count] = itsTag;
             mark[count] = itsMark;
             count++;
-            end += n;
             used += n;
             return true;
-        }
-
-        private void closeUp() {
-            int to = 0;
-            for (int i = 0; i < count; i++) {
-                System.arraycopy(row, start[i], row, to, size[i]);
-                start[i] = to;
-                to += size[i];
-            }
-            end = to;
         }
 
         void remove(int i) {
             if (!has(i)) {
                 return;
             }
-            used -= size[i];
+            int n = size[i];
+            int next = start[i] + n;
+            System.arraycopy(row, next, row, start[i], used - next);
+            used -= n;
             count--;
-            int behind = count - i;
-            System.arraycopy(start, i + 1, start, i, behind);
-            System.arraycopy(size, i + 1, size, i, behind);
-            System.arraycopy(tag, i + 1, tag, i, behind);
-            System.arraycopy(mark, i + 1, mark, i, behind);
+            for (int k = i; k < count; k++) {
+                start[k] = start[k + 1] - n;
+                size[k] = size[k + 1];
+                tag[k] = tag[k + 1];
+                mark[k] = mark[k + 1];
+            }
         }
 
         void clear() {
             count = 0;
             used = 0;
-            end = 0;
         }
 
         void copyOut(int i, Bytes to) {
@@ -880,7 +865,7 @@ public final class CraftHouse {
         }
 
         int byteOf(int i, int k) {
-            return has(i) && k >= 0 && k < size[i] ? row[start[i] + k] & 255 : 0;
+            return i >= 0 && i < count && k >= 0 && k < size[i] ? row[start[i] + k] & 255 : 0;
         }
 
         int twoOf(int i, int k) {
@@ -1087,6 +1072,8 @@ public final class CraftHouse {
         private static final int BYPASS_FLAG = 0x2000;
         private static final int CONTROL_FLAG = 0x1000;
         private static final int MOST = 32;
+        private static final int QUIET = 0;
+        private static final int GO = -1;
 
         private final Line up;
         private final Ground ground;
@@ -1239,91 +1226,81 @@ public final class CraftHouse {
             if (state == OFF) {
                 return false;
             }
-            if ((flags & 16) != 0) {
-                return alarmUnlessControl(1);
+            int verdict = judge((flags & 16) != 0, (flags & 8) != 0, (flags & 4) != 0, x);
+            if (verdict > 0) {
+                raiseAlarm(verdict);
+            }
+            return verdict == GO;
+        }
+
+        /** The number of an alarm, or QUIET, or GO. */
+        private int judge(boolean locks, boolean waits, boolean asksAgain, int x) {
+            if (locks) {
+                return state == CONTROL ? QUIET : 1;
             }
             if (((x - a) & 255) > ((s - a) & 255)) {
-                raiseAlarm(2);
-                return false;
+                return 2;
             }
-            boolean waits = (flags & 8) != 0;
-            boolean asksAgain = (flags & 4) != 0;
             if (x == s) {
-                return hearAll(waits, asksAgain);
+                return judgeAll(waits, asksAgain);
             }
-            return asksAgain ? hearAgain(x, waits) : hearSome(x, waits);
+            return asksAgain ? judgeAgain(x, waits) : judgeSome(x, waits);
         }
 
-        private boolean alarmUnlessControl(int n) {
-            if (state != CONTROL) {
-                raiseAlarm(n);
-            }
-            return false;
-        }
-
-        private boolean hearAll(boolean waits, boolean asksAgain) {
-            if (asksAgain) {
-                return alarmUnlessControl(3);
-            }
-            if (waits) {
-                return alarmUnlessControl(4);
+        private int judgeAll(boolean waits, boolean asksAgain) {
+            if (asksAgain || waits) {
+                return state == CONTROL ? QUIET : asksAgain ? 3 : 4;
             }
             if (s != a) {
                 clearTo(s);
                 state = ACTIVE;
-                return true;
+                return GO;
             }
             if (state == ACTIVE) {
-                return false;
+                return QUIET;
             }
             if (state == AGAIN || state == WAITING) {
-                raiseAlarm(3);
-                return false;
+                return 3;
             }
             state = ACTIVE;
             timer = 0;
-            return true;
+            return GO;
         }
 
-        private boolean hearSome(int x, boolean waits) {
+        private int judgeSome(int x, boolean waits) {
             if (waits) {
-                raiseAlarm(4);
-                return false;
+                return 4;
             }
             if (x == a) {
-                if (state != ACTIVE) {
-                    raiseAlarm(3);
-                }
-                return false;
+                return state == ACTIVE ? QUIET : 3;
             }
             clearTo(x);
             state = ACTIVE;
-            return true;
+            return GO;
         }
 
-        private boolean hearAgain(int x, boolean waits) {
+        private int judgeAgain(int x, boolean waits) {
             boolean news = x != a;
             if (news) {
                 clearTo(x);
             }
             if (limit == 1) {
-                raiseAlarm(5);
-                return false;
+                return 5;
             }
             if (waits) {
                 state = WAITING;
-                return false;
+                return QUIET;
             }
             if (!news && count >= limit) {
                 state = AGAIN;
-                return false;
+                return QUIET;
             }
             if (!news && state == AGAIN) {
-                return false;
+                return QUIET;
             }
             repeat();
             state = AGAIN;
-            return true;
+            return GO;
         }
 
         /** A tick passes; whether the timer ends with it. */
@@ -1670,8 +1647,8 @@ public final class CraftHouse {
         }
 
         void changeStatus(int number, int from, int to) {
-            if (statusOf(number) == from) {
-                setStatus(number, to);
+            if (hasRequest(number) && status[number & (KEPT - 1)] == from) {
+                status[number & (KEPT - 1)] = to;
             }
         }
 
@@ -1888,7 +1865,7 @@ public final class CraftHouse {
             this.noise = noise;
         }
 
-        /** Its data is put behind "packet" then, and finish() follows. */
+        /** Its data is put behind "packet" then, and finish() follows, which leaves "packet" empty. */
         void begin(int service, int subtype) {
             packet.clear();
             packet.putTwo(0x080C);
@@ -1898,6 +1875,10 @@ public final class CraftHouse {
             packet.put(service);
             packet.put(subtype);
             packet.putFour(tick);
+        }
+
+        boolean hasBegun() {
+            return packet.size > 0;
         }
 
         void finish() {
@@ -1913,6 +1894,7 @@ public final class CraftHouse {
             if (!live.add(packet, 0, packet.size, 0, 0)) {
                 lostOfLive++;
             }
+            packet.clear();
         }
 
         void pass(Store from, int low, int high) {
@@ -1923,6 +1905,7 @@ public final class CraftHouse {
                     passed.add(packet, 0, packet.size, 0, 0);
                 }
             }
+            packet.clear();
         }
 
         void sendFrame(int reportBits, int v) {
@@ -2267,18 +2250,21 @@ public final class CraftHouse {
                     report(current, 3, 0);
                 }
                 act();
-                if (raisesEvent() && happen(argFour(1) & (EVENTS - 1), argFour(1), depth)) {
+                if (maker.hasBegun()) {
+                    maker.finish();
+                }
+                if (isFunction(3) && happen(argFour(1) & (EVENTS - 1), argFour(1), depth)) {
                     look(depth + 1);
                 }
-                end();
+                if (isFunction(2)) {
+                    fail(8, 16);
+                } else {
+                    succeed();
+                }
             }
         }
 
-        private void end() {
-            if (isFunction(2)) {
-                fail(8, 16);
-                return;
-            }
+        private void succeed() {
             if ((current.at(6) & 1) != 0) {
                 report(current, 7, 0);
             }
@@ -2292,10 +2278,6 @@ public final class CraftHouse {
 
         private boolean isFunction(int k) {
             return current.two(7) == 0x0801 && arg(0) == k;
-        }
-
-        private boolean raisesEvent() {
-            return isFunction(3);
         }
 
         private int arg(int i) {
@@ -2329,6 +2311,7 @@ public final class CraftHouse {
             }
         }
 
+        /** What a report has, if there is one, is begun then and not finished. */
         private void act() {
             switch (current.at(7)) {
                 case 3: actStructures(); break;
@@ -2338,7 +2321,7 @@ public final class CraftHouse {
                 case 11: actSchedule(); break;
                 case 12: actWatches(); break;
                 case 15: actStores(); break;
-                case 17: actTest(); break;
+                case 17: maker.begin(17, 2); break;
                 case 19: actActions(); break;
                 case 20: actParameters(); break;
                 default: break;
@@ -2346,11 +2329,6 @@ public final class CraftHouse {
         }
 
         // ---- 17, 20, 8: a test, parameters, functions
-
-        private void actTest() {
-            maker.begin(17, 2);
-            maker.finish();
-        }
 
         private int whyNotParameters() {
             boolean sets = subtype() == 3;
@@ -2378,7 +2356,6 @@ public final class CraftHouse {
             for (int i = 0; i < n; i++) {
                 putValue(arg(1 + i));
             }
-            maker.finish();
         }
 
         private void setParameter(int p, int v) {
@@ -2429,7 +2406,6 @@ public final class CraftHouse {
                 maker.packet.putTwo(argTwo(2));
                 maker.packet.putTwo(memory.checkOf(address, address + argTwo(2)));
             }
-            maker.finish();
         }
 
         // ---- 3: structures
@@ -2475,7 +2451,7 @@ public final class CraftHouse {
                     structures[base + ON] = 0;
                     break;
                 default:
-                    reportStructure(s);
+                    beginStructureReport(s);
                     break;
             }
         }
@@ -2495,7 +2471,7 @@ public final class CraftHouse {
             }
         }
 
-        private void reportStructure(int s) {
+        private void beginStructureReport(int s) {
             int base = s * STRUCTURE_ROW;
             if (s < 0 || s >= PLACES) {
                 return;
@@ -2507,7 +2483,6 @@ public final class CraftHouse {
             for (int i = 0; i < n; i++) {
                 putValue(structures[base + FIRST_P + i]);
             }
-            maker.finish();
         }
 
         void runStructures() {
@@ -2517,7 +2492,8 @@ public final class CraftHouse {
                     structures[base + WAIT]--;
                     if (structures[base + WAIT] == 0) {
                         structures[base + WAIT] = structures[base + INTERVAL];
-                        reportStructure(s);
+                        beginStructureReport(s);
+                        maker.finish();
                     }
                 }
             }
@@ -2602,7 +2578,7 @@ public final class CraftHouse {
 
         private void actWatches() {
             if (subtype() == 13) {
-                reportWatches();
+                beginWatchReport();
                 return;
             }
             if (arg(0) >= PLACES) {
@@ -2638,12 +2614,11 @@ public final class CraftHouse {
             watches[base + ITS_EVENT] = arg(11);
         }
 
-        private void reportWatches() {
+        private void beginWatchReport() {
             maker.begin(12, 14);
             for (int m = 0; m < PLACES; m++) {
                 maker.packet.put(watches[m * WATCH_ROW + STATE]);
             }
-            maker.finish();
         }
 
         void runWatches() {
@@ -2775,7 +2750,7 @@ public final class CraftHouse {
                     break;
                 case 5: entries.remove(findCount(argTwo(0))); break;
                 case 15: shiftAll(argFour(0)); break;
-                case 16: reportSchedule(); break;
+                case 16: beginScheduleReport(); break;
                 case 20: groupsOff &= ~(1 << arg(0)); break;
                 case 21: groupsOff |= 1 << arg(0); break;
                 default: break;
@@ -2788,7 +2763,7 @@ public final class CraftHouse {
             }
         }
 
-        private void reportSchedule() {
+        private void beginScheduleReport() {
             int n = Math.min(entries.count, 8);
             maker.begin(11, 17);
             maker.packet.put(n);
@@ -2797,7 +2772,6 @@ public final class CraftHouse {
                 maker.packet.putFour(entries.tagOf(i));
                 maker.packet.putTwo(countOf(i));
             }
-            maker.finish();
         }
 
         // ---- 15: stores
