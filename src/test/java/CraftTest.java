@@ -339,6 +339,11 @@ public final class CraftTest {
         dueCraft("eight", x, 8, 0, 0, 0, 0, 16, 8);
         number(x, 8);
         dueCraft("WAIT", x, 8, 0, 1, 1, 0, 16, 8);
+        int made = x.craft(14);
+        number(x, 8);
+        dueCraft("under WAIT nothing", x, 8, 0, 1, 1, 0, 16, 8);
+        Kit.due("made", x.craft(14), made);
+        Kit.due("TAKEN", x.parameter(16), 8);
         x.tick(1);
         dueCraft("WAIT ends", x, 8, 0, 0, 1, 0, 16, 4);
         number(x, 8);
@@ -540,6 +545,17 @@ public final class CraftTest {
             String[] kind = parts[0].split(",");
             byte[] data = Kit.hex(parts.length > 1 ? parts[1] : "");
             dueRefused(each, 6, Kit.packetUp(1, 0, Integer.parseInt(kind[0]), Integer.parseInt(kind[1]), data));
+        }
+        // of bytes that a packet has not nothing is left from the one before
+        for (int n = 1; n < 5; n++) {
+            CraftHouse x = new CraftHouse();
+            byte[] full = Kit.filled(NOTHING, 60, 0xEE);
+            Kit.inject(x, 0, Kit.unit(Kit.frame(true, false, 0, full)));
+            Kit.inject(x, 0, Kit.unit(Kit.frame(true, false, 0, java.util.Arrays.copyOf(full, n))));
+            x.carry(0, 32000);
+            x.tick(1);
+            x.carry(1, 64000);
+            dueReport("after a long one", x, 1, 2, b(n > 2 ? 0xEE : 0, n > 3 ? 0xEE : 0, 1));
         }
         byte[] forty = new byte[41];
         dueRefused("a packet of 41 bytes", 6, Kit.packetUp(1, 0, 19, 1, Kit.join(b(0, 1), forty)));
@@ -948,6 +964,29 @@ public final class CraftTest {
         dueStore(x, 1, 1, 0, 0, 0, 0, 0, NONE, NONE);
     }
 
+    /** 71 packets of 15 bytes and 8 of 17 would be 1201 bytes: one too many. */
+    private static void fillByBytes(int kind) {
+        CraftHouse x = new CraftHouse();
+        done(x, 15, 12, b(0, kind));
+        done(x, 15, 3, b(0, 17, 2));
+        done(x, 15, 1, b(0));
+        for (int i = 0; i < 71; i++) {
+            x.request(17, 1, 0, true);
+            x.carry(0, 32000);
+            x.tick(1);
+        }
+        dueStore(x, 0, kind, 1, 71, 1065, 0, 1);
+        done(x, 15, 3, b(0, 1, 1));
+        for (int i = 0; i < 8; i++) {
+            x.wipe();
+            Kit.feed(x, new byte[5]);
+            x.request(8, 1, 8, true);
+            x.carry(0, 32000);
+            x.tick(1);
+        }
+        dueStore(x, 0, kind, 1, 78, kind == 0 ? 1065 + 7 * 17 : 1065 + 8 * 17 - 15, kind == 0 ? 1 : 0, 2);
+    }
+
     private static void promise34Kinds() {
         Kit.about("promise 34, kinds");
         CraftHouse x = new CraftHouse();
@@ -988,6 +1027,8 @@ public final class CraftTest {
         Kit.due("PASSED", x.craft(8), 0);
         Kit.due("code", x.became(x.requests() - 1, 1), 26);
         Kit.due("came", x.came(5), had + 40 + 3 + 2);
+        fillByBytes(0);
+        fillByBytes(1);
         // a range of TICKS
         CraftHouse y = new CraftHouse();
         done(y, 15, 3, b(0, 17, 2));

@@ -719,6 +719,9 @@ public final class GroundTest {
         alone(x, 3, Kit.packetDown(3, 20, 2, 13, Kit.join(Kit.bytes(5, 0), Kit.four(3), Kit.bytes(1, 0, 0, 0))));
         dueShown("not all of it", x, 0, 1, 3, 13);
         dueShown("not all of it", x, 1, 0, 0, 0);
+        alone(x, 4, Kit.packetDown(4, 20, 2, 13, Kit.join(Kit.bytes(1, 6), Kit.four(3), Kit.bytes(7), Kit.four(4))));
+        dueShown("more than n", x, 6, 1, 3, 13);
+        dueShown("more than n", x, 7, 0, 0, 0);
         alone(x, 4, Kit.packetDown(4, 20, 2, 13, new byte[0]));
         alone(x, 5, Kit.packetDown(5, 3, 25, 13, new byte[1]));
         alone(x, 6, Kit.packetDown(6, 20, 3, 20, Kit.join(Kit.bytes(1, 2), Kit.four(3))));

@@ -209,6 +209,7 @@ public final class TapeAndLinesTest {
         Kit.due("bits(0)", x.bits(0), 16);
         Kit.due("bits(1)", x.bits(1), 8);
         Kit.due("bits(2)", x.bits(2), BAD);
+        Kit.due("bits(3)", x.bits(3), BAD);
         Kit.due("bits(-1)", x.bits(-1), BAD);
         Kit.dueBytes("up", Kit.onLine(x, 0, 0, 2), Kit.hex("A501"));
         Kit.due("bit(1, 0)", x.bit(1, 0), 1);
@@ -323,7 +324,7 @@ public final class TapeAndLinesTest {
         Kit.about("promise 11");
         for (int gone : new int[] {0, 1, 30, 31, 32, 33, 63, 64, 79}) {
             CraftHouse x = new CraftHouse();
-            byte[] row = Kit.hex("A3 5C 19 F0 0F 81 7E 33 C5 96");
+            byte[] row = Kit.hex("A3 5C 19 F1 0F 81 7E 33 45 96");
             Kit.inject(x, 1, row);
             Kit.due("slip(1, " + gone + ")", x.slip(1, gone), 79);
             for (int i = 0; i < 79; i++) {
@@ -346,7 +347,8 @@ public final class TapeAndLinesTest {
         CraftHouse x = new CraftHouse();
         Kit.inject(x, 0, Kit.hex("FF FF FF FF FF FF FF FF FF"));
         Kit.due("lose(0, 0)", x.lose(0, 0), 72);
-        Kit.due("lose(0, 3)", x.lose(0, 3), 69);
+        Kit.due("lose(0, 1)", x.lose(0, 1), 71);
+        Kit.due("lose(0, 2)", x.lose(0, 2), 69);
         Kit.due("lose(0, 38)", x.lose(0, 38), 31);
         Kit.due("bit(0, 30)", x.bit(0, 30), 1);
         Kit.due("bit(0, 31)", x.bit(0, 31), BAD);
@@ -385,7 +387,10 @@ public final class TapeAndLinesTest {
         Kit.due("inject when full", x.inject(line), FULL);
         Kit.due("the tape then", x.wipe(), 0);
         Kit.due("bits", x.bits(line), 8 * bytes);
-        x.lose(line, 8);
+        x.lose(line, 7);
+        x.feed(0xFF, 1);
+        Kit.due("inject a bit too many", x.inject(line), FULL);
+        x.lose(line, 1);
         x.feed(0xFFFF, 2);
         Kit.due("inject without enough room", x.inject(line), FULL);
         x.feed(0xA5, 1);
