@@ -744,6 +744,10 @@ public final class CraftTest {
         Kit.due("events", x.parameter(22), 1);
         dueDone("on", 0, x, 5, 5, b(31));
         Kit.due("event(31, 0)", x.event(31, 0), 1);
+        for (int e = 0; e < 32; e++) {
+            dueDone("an event", 0, x, 8, 1, b(3), Kit.four(64 + e));
+            dueReport("event " + e, x, 5, 1 + e / 8, Kit.join(b(e), Kit.four(64 + e)));
+        }
         byte[] action = Kit.packetUp(77, 15, 8, 1, Kit.join(b(1), Kit.four(4242)));
         dueDone("none such", 14, x, 19, 1, b(32, 1), action);
         dueDone("an ACTION", 0, x, 19, 1, b(8, 0), action);
@@ -795,6 +799,13 @@ public final class CraftTest {
         done(y, 12, 1, b(0));
         y.tick(20);
         Kit.due("events", y.parameter(22), 5);
+        // from the SCHEDULE: DEPTH 0
+        CraftHouse v = new CraftHouse();
+        done(v, 19, 1, b(1, 1), again);
+        done(v, 11, 1);
+        done(v, 11, 4, b(0), Kit.four(50), again);
+        v.tick(80);
+        Kit.due("events", v.parameter(22), 5);
         // an ACTION that finds REQUESTS with 8 is refused
         CraftHouse z = new CraftHouse();
         done(z, 19, 1, b(1, 1), Kit.packetUp(0x345, 0, 17, 1, NOTHING));
@@ -915,6 +926,17 @@ public final class CraftTest {
         y.tick(90 - y.tick(0));
         Kit.due("REFUSED", y.parameter(18), 2);
         Kit.due("REQUESTS", y.craft(6), 4);
+        // all 16 of one tick go
+        for (int i = 0; i < 16; i++) {
+            done(y, 11, 4, b(0), Kit.four(400), TEST);
+        }
+        Kit.due("entries", y.entry(NONE, 0), 16);
+        y.tick(200);
+        y.tick(399 - y.tick(0));
+        Kit.due("entries", y.entry(NONE, 0), 16);
+        y.tick(1);
+        Kit.due("entries", y.entry(NONE, 0), 0);
+        Kit.due("REFUSED", y.parameter(18), 2 + 8);
     }
 
     private static void dueStore(CraftHouse x, int s, int... want) {
@@ -1027,6 +1049,17 @@ public final class CraftTest {
         Kit.due("PASSED", x.craft(8), 0);
         Kit.due("code", x.became(x.requests() - 1, 1), 26);
         Kit.due("came", x.came(5), had + 40 + 3 + 2);
+        // one packet in PASSED is enough to refuse another 15, 9
+        CraftHouse z = new CraftHouse();
+        done(z, 15, 3, b(0, 17, 2));
+        done(z, 15, 1, b(0));
+        done(z, 17, 1);
+        ask(z, 15, 9, b(0), Kit.four(0), Kit.four(9999));
+        ask(z, 15, 9, b(0), Kit.four(0), Kit.four(9999));
+        z.tick(5);
+        z.carry(1, 64000);
+        Kit.due("the first", z.became(z.requests() - 2, 0), 9);
+        Kit.due("the second", z.became(z.requests() - 1, 1), 26);
         fillByBytes(0);
         fillByBytes(1);
         // a range of TICKS
