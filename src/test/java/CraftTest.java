@@ -2,12 +2,7 @@ import java.util.ArrayList;
 import java.util.List;
 
 /** Promises 25 to 34: the craft, its machine, its services, what it sends. */
-public final class CraftTest {
-    private static final int BAD = Kit.BAD;
-    private static final int NONE = Kit.NONE;
-    private static final byte[] NOTHING = new byte[0];
-    private static final byte[] TEST = Kit.packetUp(0x123, 0, 17, 1, NOTHING);
-
+public final class CraftTest extends Trip {
     private CraftTest() {
     }
 
@@ -35,55 +30,6 @@ public final class CraftTest {
         promise34Kinds();
         Kit.end();
     }
-
-    // ---- sending requests at once
-
-    /** The request goes up with BYPASS and all ACKS: its number. */
-    private static int ask(CraftHouse x, int service, int subtype, byte[]... data) {
-        x.wipe();
-        Kit.feed(x, Kit.join(data));
-        int number = x.request(service, subtype, 15, true);
-        x.carry(0, 32000);
-        return number;
-    }
-
-    /** What became of it: 9 done; else the code, turned below 0. */
-    private static int done(CraftHouse x, int service, int subtype, byte[]... data) {
-        int number = ask(x, service, subtype, data);
-        for (int i = 0; i < 12 && (x.became(number, 0) < 8 && x.became(number, 0) != 6 || i == 0); i++) {
-            x.tick(1);
-            x.carry(1, 64000);
-        }
-        return x.became(number, 0) == 9 ? 9 : -x.became(number, 1);
-    }
-
-    private static void dueDone(String what, int code, CraftHouse x, int service, int subtype, byte[]... data) {
-        Kit.due(what + " " + service + ", " + subtype, done(x, service, subtype, data), code == 0 ? 9 : -code);
-    }
-
-    /** The place in the archive of the newest packet of a kind; -1 if there is none. */
-    private static int newest(CraftHouse x, int service, int subtype) {
-        for (int i = 0; i < 40; i++) {
-            if (x.archived(i, 1) == service && x.archived(i, 2) == subtype) {
-                return i;
-            }
-        }
-        return -1;
-    }
-
-    private static void dueReport(String what, CraftHouse x, int service, int subtype, byte[] data) {
-        int i = newest(x, service, subtype);
-        Kit.due(what + ": bytes", x.archived(i, 5), 15 + data.length);
-        for (int k = 0; k < data.length; k++) {
-            Kit.due(what + ": data " + k, x.archivedByte(i, 13 + k), data[k] & 255);
-        }
-    }
-
-    private static byte[] b(int... values) {
-        return Kit.bytes(values);
-    }
-
-    // ---- promises
 
     private static void promise25() {
         Kit.about("promise 25");
@@ -124,23 +70,10 @@ public final class CraftTest {
         dueReport("a report ahead of it", y, 3, 25, Kit.join(b(0, 1, 0), Kit.four(0)));
     }
 
-    private static byte[] frameAt(CraftHouse x, int i) {
-        byte[] row = Kit.onLine(x, 1, 544 * i + 32, 64);
-        byte[] noise = Kit.noise();
-        for (int k = 0; k < 64; k++) {
-            row[k] ^= noise[k];
-        }
-        return row;
-    }
-
     private static void dueFrame(CraftHouse x, int i, int channel, int own, int first, byte[] content, byte[] report) {
         Kit.dueBytes("mark " + i, Kit.onLine(x, 1, 544 * i, 4), Kit.hex("1ACFFC1D"));
         byte[] head = Kit.join(Kit.two(0x0AB1 | channel << 1), b(i, own), Kit.two(0x1800 | first));
         Kit.dueBytes("frame " + i, frameAt(x, i), Kit.checked(Kit.join(head, content, report)));
-    }
-
-    private static byte[] idle(int n) {
-        return Kit.filled(Kit.join(Kit.hex("07FFC000"), Kit.two(n - 7)), n, 0);
     }
 
     private static void promise25Frames() {
@@ -301,17 +234,6 @@ public final class CraftTest {
         dueDone("check beyond", 11, x, 6, 9, Kit.two(1), Kit.two(1024));
         dueDone("check far beyond", 11, x, 6, 9, Kit.two(65535), Kit.two(65535));
         dueDone("check none", 6, x, 6, 9, Kit.two(1), Kit.two(0));
-    }
-
-    private static void number(CraftHouse x, int n) {
-        Kit.inject(x, 0, Kit.unit(Kit.frame(false, false, n, TEST)));
-        x.carry(0, 32000);
-    }
-
-    private static void dueCraft(String when, CraftHouse x, int... want) {
-        for (int i = 0; i < want.length; i++) {
-            Kit.due(when + ": craft(" + i + ")", x.craft(i), want[i]);
-        }
     }
 
     private static void promise29Machine() {
@@ -492,12 +414,6 @@ public final class CraftTest {
         dueReport(what, x, 1, 2, Kit.join(two, b(code)));
     }
 
-    private static byte[] changed(byte[] packet, int place, int v) {
-        byte[] row = java.util.Arrays.copyOf(packet, packet.length - 2);
-        row[place] = (byte) v;
-        return Kit.checked(row);
-    }
-
     private static void refused() {
         Kit.about("promise 15, packets that are refused");
         dueRefused("fine", 0, TEST);
@@ -634,22 +550,6 @@ public final class CraftTest {
         dueDone("eight p", 0, x, 3, 1, b(0), Kit.two(65535), b(8, 0, 1, 2, 3, 4, 5, 6, 7));
         dueStructure(x, 0, 1, 0, 65535, 0, 8, 0, 1, 2, 3, 4, 5, 6, 7, BAD);
         dueDone("on again", 0, x, 3, 5, b(0));
-    }
-
-    private static void dueStructure(CraftHouse x, int s, int... want) {
-        for (int i = 0; i < want.length; i++) {
-            Kit.due("structure(" + s + ", " + i + ")", x.structure(s, i), want[i]);
-        }
-    }
-
-    private static byte[] watch(int m, int p, int low, int high, int times, int event) {
-        return Kit.join(b(m, p), Kit.four(low), Kit.four(high), b(times, event));
-    }
-
-    private static void dueWatch(CraftHouse x, int m, int... want) {
-        for (int i = 0; i < want.length; i++) {
-            Kit.due("watch(" + m + ", " + i + ")", x.watch(m, i), want[i]);
-        }
     }
 
     private static void promise31() {
@@ -937,12 +837,6 @@ public final class CraftTest {
         y.tick(1);
         Kit.due("entries", y.entry(NONE, 0), 0);
         Kit.due("REFUSED", y.parameter(18), 2 + 8);
-    }
-
-    private static void dueStore(CraftHouse x, int s, int... want) {
-        for (int i = 0; i < want.length; i++) {
-            Kit.due("store(" + s + ", " + i + ")", x.store(s, i), want[i]);
-        }
     }
 
     private static void promise34() {

@@ -1,12 +1,6 @@
 /** Promises 14 to 24: the ground's requests, its machine, its ear and what came. */
-public final class GroundTest {
-    private static final int BAD = Kit.BAD;
-    private static final int NONE = Kit.NONE;
-    private static final int FULL = Kit.FULL;
-    private static final int LOCKOUT = 0x20;
-    private static final int WAIT = 0x10;
-    private static final int AGAIN = 0x08;
-    private static final byte[] IDLE = Kit.filled(new byte[0], 52, 0x55);
+public final class GroundTest extends Trip {
+    private static final byte[] IDLE = FIVES;
 
     private GroundTest() {
     }
@@ -129,12 +123,6 @@ public final class GroundTest {
         Kit.due("became(69, -1)", x.became(69, -1), BAD);
     }
 
-    private static void dueMachine(String when, CraftHouse x, int... want) {
-        for (int i = 0; i < want.length; i++) {
-            Kit.due(when + " machine(" + i + ")", x.machine(i), want[i]);
-        }
-    }
-
     private static void promise18Beginnings() {
         Kit.about("promise 18");
         CraftHouse x = new CraftHouse();
@@ -238,22 +226,6 @@ public final class GroundTest {
         x.tick(2);
         Kit.due("direct(4) with HOLD", x.direct(4, 0), 1);
         dueMachine("ended", x, 6, 2, 2, 1, 0, 0, 7);
-    }
-
-    /** A frame without packets comes down that brings a report. */
-    private static void bring(CraftHouse x, int bits, int v) {
-        x.lose(1, 64000);
-        Kit.inject(x, 1, Kit.frameDown(7, 0, 0, 0x7FE, IDLE, Kit.bytes(1, 0, bits, v)));
-        x.carry(1, 64000);
-    }
-
-    private static CraftHouse begun(int n) {
-        CraftHouse x = new CraftHouse();
-        x.direct(0, 0);
-        for (int i = 0; i < n; i++) {
-            x.request(17, 1, 0, false);
-        }
-        return x;
     }
 
     private static void promise19AllAcknowledged() {
@@ -568,11 +540,6 @@ public final class GroundTest {
         x.carry(1, 64000);
     }
 
-    private static void down(CraftHouse x, int channel, int own, int first, byte[] content) {
-        Kit.inject(x, 1, Kit.frameDown(channel, 0, own, first, content, Kit.bytes(1, 0, 0, 0)));
-        x.carry(1, 64000);
-    }
-
     private static void promise21Packets() {
         Kit.about("promise 21, packets");
         CraftHouse x = new CraftHouse();
@@ -643,11 +610,6 @@ public final class GroundTest {
         Kit.due("ARCHIVED", x.came(5), 0);
         alone(x, bad + 1, fine);
         Kit.due("ARCHIVED", x.came(5), 1);
-    }
-
-    private static void alone(CraftHouse x, int own, byte[] packet) {
-        byte[] idle = Kit.join(Kit.hex("07FFC000"), Kit.two(52 - packet.length - 7));
-        down(x, 0, own, 0, Kit.filled(Kit.join(packet, idle), 52, 0));
     }
 
     private static void promise21LongPackets() {

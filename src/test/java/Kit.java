@@ -1,4 +1,7 @@
 import java.io.ByteArrayOutputStream;
+import java.lang.reflect.Method;
+import java.util.Arrays;
+import java.util.Comparator;
 
 /** What the tests share: counting what is wrong, and codes written anew from the document's words. */
 final class Kit {
@@ -34,8 +37,21 @@ final class Kit {
         }
     }
 
-    static boolean isAllRight() {
-        return wrong == 0;
+    /** Runs every method of a class that takes nothing and answers nothing: so none is forgotten. */
+    static void runAll(Class<?> tests) throws ReflectiveOperationException {
+        Method[] methods = tests.getDeclaredMethods();
+        Arrays.sort(methods, Comparator.comparing(Method::getName));
+        int ran = 0;
+        for (Method each : methods) {
+            if (each.getParameterCount() == 0 && each.getReturnType() == void.class && !each.isSynthetic()) {
+                each.setAccessible(true);
+                about(each.getName());
+                each.invoke(null);
+                ran++;
+            }
+        }
+        System.out.println(ran + " tests of boundary cases");
+        end();
     }
 
     static byte[] bytes(int... values) {
@@ -110,11 +126,11 @@ final class Kit {
     static byte[] unit(byte[] data) {
         int blocks = (data.length + 6) / 7;
         byte[] filled = new byte[7 * blocks];
-        java.util.Arrays.fill(filled, (byte) 0x55);
+        Arrays.fill(filled, (byte) 0x55);
         System.arraycopy(data, 0, filled, 0, data.length);
         byte[] all = hex("EB90");
         for (int i = 0; i < blocks; i++) {
-            byte[] seven = java.util.Arrays.copyOfRange(filled, 7 * i, 7 * i + 7);
+            byte[] seven = Arrays.copyOfRange(filled, 7 * i, 7 * i + 7);
             all = join(all, seven, bytes(parityOf(filled, 7 * i)));
         }
         return join(all, hex("C5C5C5C5C5C5C579"));
@@ -158,7 +174,7 @@ final class Kit {
 
     static byte[] filled(byte[] row, int n, int with) {
         byte[] all = new byte[n];
-        java.util.Arrays.fill(all, (byte) with);
+        Arrays.fill(all, (byte) with);
         System.arraycopy(row, 0, all, 0, Math.min(n, row.length));
         return all;
     }

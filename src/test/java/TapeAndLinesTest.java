@@ -1,9 +1,5 @@
 /** Promises 1 to 13: a new object, the tape and its codes, the lines. */
-public final class TapeAndLinesTest {
-    private static final int BAD = Kit.BAD;
-    private static final int NONE = Kit.NONE;
-    private static final int FULL = Kit.FULL;
-
+public final class TapeAndLinesTest extends Trip {
     private TapeAndLinesTest() {
     }
 
