@@ -1,4 +1,5 @@
 import java.util.Arrays;
+import java.util.Random;
 
 /** Boundary cases, a test for each sentence that names one: part 1 BYTES, promises 1 to 13. */
 public final class BytesBoundsTest extends Trip {
@@ -13,9 +14,7 @@ public final class BytesBoundsTest extends Trip {
 
     private static byte[] row(int n) {
         byte[] row = new byte[n];
-        for (int i = 0; i < n; i++) {
-            row[i] = (byte) (i * 73 + n);
-        }
+        new Random(n).nextBytes(row);
         return row;
     }
 
@@ -362,14 +361,37 @@ public final class BytesBoundsTest extends Trip {
 
     private static void slipClosesUpOverWords() {
         Kit.about("promise 11, those behind close up");
-        byte[] row = row(16);
-        for (int gone = 0; gone < 128; gone++) {
-            CraftHouse x = new CraftHouse();
-            Kit.inject(x, 1, row);
-            due("slip(1, " + gone + ")", x.slip(1, gone), 127);
-            for (int i = 0; i < 127; i++) {
-                int from = i < gone ? i : i + 1;
-                due("bit " + i, x.bit(1, i), row[from / 8] >> 7 - from % 8 & 1);
+        for (int bytes = 12; bytes <= 24; bytes++) {
+            byte[] row = row(bytes);
+            for (int gone = 0; gone < 8 * bytes; gone += 1 + bytes % 3) {
+                CraftHouse x = new CraftHouse();
+                Kit.inject(x, 1, row);
+                due("slip(1, " + gone + ")", x.slip(1, gone), 8 * bytes - 1);
+                dueBits(x, 1, 0, gone, row, 0);
+                dueBits(x, 1, gone, 8 * bytes - 1, row, 1);
+            }
+        }
+    }
+
+    /** Bits from .. to - 1 of a line are those of a row, some further on. */
+    private static void dueBits(CraftHouse x, int line, int from, int to, byte[] row, int further) {
+        for (int i = from; i < to; i++) {
+            int k = i + further;
+            due("bit " + i, x.bit(line, i), row[k / 8] >> 7 - k % 8 & 1);
+        }
+    }
+
+    private static void carryClosesUp() {
+        Kit.about("promise 9, the first n bits go, those behind close up, and nothing is left behind them");
+        for (int line = 0; line < 2; line++) {
+            for (int gone = 1; gone < 136; gone += 3) {
+                CraftHouse x = new CraftHouse();
+                byte[] row = row(17);
+                Kit.inject(x, line, row);
+                due("carry(" + line + ", " + gone + ")", x.carry(line, gone), gone);
+                dueBits(x, line, 0, 136 - gone, row, gone);
+                Kit.inject(x, line, new byte[20]);
+                dueBits(x, line, 136 - gone, 296 - gone, new byte[20], gone - 136);
             }
         }
     }

@@ -514,6 +514,12 @@ public final class DownBoundsTest extends Trip {
             due("bit " + bit + ": STATE", x.machine(0), such ? 6 : 1);
             due("bit " + bit + ": BAD frames", x.came(3), 0);
         }
+        // one that is none leaves the machine as it is, whatever was heard before
+        CraftHouse looks = new CraftHouse();
+        looks.direct(1, 0);
+        Kit.inject(looks, 1, Kit.frameDown(7, 0, 0, 0x7FE, FIVES, Kit.bytes(0, 0, 0, 0)));
+        looks.carry(1, 64000);
+        due("STATE", looks.machine(0), 4);
         // a frame whose report is none still brings its packets
         CraftHouse x = new CraftHouse();
         Kit.inject(x, 1, Kit.frameDown(0, 0, 0, 0, Kit.join(SMALL, idle(37)), Kit.bytes(2, 0, 0, 7)));

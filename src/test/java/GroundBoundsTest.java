@@ -127,6 +127,26 @@ public final class GroundBoundsTest extends Trip {
         }
     }
 
+    private static void reportsOfOneByte() {
+        Kit.about("7, with at least as many bytes of DATA as told: CHECK is none of them");
+        // one byte of DATA, and CHECK behind it looks like the rest of a COUNT that is kept
+        int looked = 0;
+        for (int tick = 0; tick < 40; tick++) {
+            for (int subtype : new int[] {1, 2, 3, 4, 7, 8}) {
+                byte[] packet = Kit.packetDown(0, 1, subtype, tick, b(0));
+                int count = packet[packet.length - 2] & 255;
+                if (count < 64) {
+                    CraftHouse x = built(64);
+                    alone(x, 0, packet);
+                    due("1, " + subtype + ": became(" + count + ", 0)", x.became(count, 0), 0);
+                    due("ARCHIVED", x.came(5), 1);
+                    looked++;
+                }
+            }
+        }
+        due("there are such", looked > 10 ? 1 : 0, 1);
+    }
+
     private static void reportsOfACount() {
         Kit.about("7, bytes 2, 3, the lowest 14 bits; the latest with it, if it is of the 64");
         for (int high : new int[] {0x0000, 0x4000, 0x8000, 0xC000}) {
@@ -291,6 +311,32 @@ public final class GroundBoundsTest extends Trip {
                 due(n + ": the oldest", x.archivedByte(kept - 1, 8), n - kept);
                 due(n + ": the oldest, TICK", x.archived(kept - 1, 3), 1000 + n - kept);
             }
+        }
+    }
+
+    private static void theLatestFortyOfAllSizes() {
+        Kit.about("7, ARCHIVED (the latest 40 are kept), of different sizes");
+        CraftHouse x = new CraftHouse();
+        int n = 46;
+        int frame = 0;
+        byte[] row = NOTHING;
+        for (int i = 0; i < n; i++) {
+            byte[] next = Kit.packetDown(i, 4, i, i, Kit.filled(NOTHING, i % 3, i));
+            row = Kit.join(row, next);
+            if (i % 3 == 2 || i == n - 1) {
+                // 15, 16 and 17 bytes are 48: four are left, so an idle packet goes on in the next frame
+                row = Kit.join(row, idle(7));
+                down(x, 0, frame++, 0, Arrays.copyOf(row, 52));
+                row = Arrays.copyOfRange(row, 52, Math.max(52, row.length));
+            }
+        }
+        due("in all", x.came(5) >= 40 ? 1 : 0, 1);
+        int newest = x.archived(0, 2);
+        for (int i = 0; i < 40; i++) {
+            int which = newest - i;
+            due("subtype", x.archived(i, 2), which);
+            due("bytes", x.archived(i, 5), 15 + which % 3);
+            due("TICK", x.archived(i, 3), which);
         }
     }
 

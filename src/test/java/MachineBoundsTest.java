@@ -360,6 +360,38 @@ public final class MachineBoundsTest extends Trip {
         }
     }
 
+    private static void controlFrames() {
+        Kit.about("promise 18, 2 with UNLOCK, 3 with SET to v (0 .. 255): that control FRAME (N 0) is sent");
+        CraftHouse x = new CraftHouse();
+        x.direct(2, 0);
+        dueUnit("UNLOCK", x, Kit.frame(true, true, 0, b(0)));
+        for (int v : new int[] {0, 1, 128, 255}) {
+            CraftHouse y = new CraftHouse();
+            // one that was sent before leaves nothing behind
+            y.direct(v == 1 ? 2 : 3, 77);
+            y.direct(4, 0);
+            y.lose(0, 32000);
+            y.direct(3, v);
+            dueUnit("SET to " + v, y, Kit.frame(true, true, 0, b(0x82, 0, v)));
+        }
+        CraftHouse z = new CraftHouse();
+        z.direct(3, 9);
+        z.direct(4, 0);
+        z.lose(0, 32000);
+        z.direct(2, 0);
+        dueUnit("UNLOCK behind SET", z, Kit.frame(true, true, 0, b(0)));
+        z.lose(0, 32000);
+        z.tick(20);
+        dueUnit("once more", z, Kit.frame(true, true, 0, b(0)));
+    }
+
+    private static void dueUnit(String when, CraftHouse x, byte[] frame) {
+        byte[] unit = Kit.unit(frame);
+        due(when + ": bits", x.bits(0), 8 * unit.length);
+        // the tail is the same in all units
+        Kit.dueBytes(when, Kit.onLine(x, 0, 0, unit.length - 8), Arrays.copyOf(unit, unit.length - 8));
+    }
+
     private static void machineHasBounds() {
         Kit.about("promise 19, BAD");
         CraftHouse x = new CraftHouse();
@@ -444,6 +476,21 @@ public final class MachineBoundsTest extends Trip {
         Kit.dueBytes("the third", Kit.onLine(x, 0, 2 * 272, 34), last);
     }
 
+    private static void framesSentOnceMore() {
+        Kit.about("3, GO: the first marked FRAME of SENT is sent once more: as it was");
+        CraftHouse x = begun(0);
+        for (int i = 0; i < 3; i++) {
+            x.feed(i, 1);
+            x.request(100 + i, i, 0, false);
+        }
+        x.lose(0, 32000);
+        bring(x, AGAIN, 0);
+        for (int i = 0; i < 3; i++) {
+            byte[] unit = Kit.unit(Kit.frame(false, false, i, Kit.packetUp(i, 0, 100 + i, i, b(i))));
+            Kit.dueBytes("FRAME " + i, Kit.onLine(x, 0, 8 * i * unit.length + 16, 16), Arrays.copyOfRange(unit, 2, 18));
+        }
+    }
+
     private static void countWhenSentWasEmpty() {
         Kit.about("3, GO: COUNT is 1 if SENT was empty");
         CraftHouse x = begun(2);
@@ -524,6 +571,19 @@ public final class MachineBoundsTest extends Trip {
                 bring(y, bits, v);
                 dueMachine("off", y, 6, 0, 0, 1, 0, 0, 0, 0, 0, 0);
             }
+        }
+    }
+
+    private static void reportsWithAnyB() {
+        Kit.about("3, a REPORT: B does not count");
+        for (int b = 0; b < 4; b++) {
+            CraftHouse x = begun(2);
+            bring(x, b << 1, 0);
+            dueMachine("B " + b + ", x = A", x, 1, 2, 0, 1, 20, 0, 0, 2, 0, 0);
+            bring(x, b << 1, 1);
+            dueMachine("B " + b + ", one", x, 1, 2, 1, 1, 20, 0, 0, 1, 0, 0);
+            bring(x, b << 1, 2);
+            dueMachine("B " + b + ", all", x, 1, 2, 2, 1, 0, 0, 0, 0, 0, 0);
         }
     }
 
@@ -766,6 +826,12 @@ public final class MachineBoundsTest extends Trip {
             int sent = state <= 3 ? 2 : 0;
             dueMachine("from " + state, x, state, sent, 0, count, 33, 0, 0, sent, 0, 0);
         }
+        CraftHouse x = held();
+        x.direct(7, 3);
+        x.lose(0, 32000);
+        x.direct(5, 0);
+        dueMachine("GO: what waits is sent", x, 1, 3, 0, 1, 1, 0, 0, 3, 0, 0);
+        due("one unit", x.bits(0), 272);
     }
 
     // ---- what became of requests
@@ -784,16 +850,16 @@ public final class MachineBoundsTest extends Trip {
         Kit.about("3, ALARM: the requests of SENT, and those that wait, are LOST (if they were SENT, WAITING)");
         CraftHouse x = begun(0);
         x.direct(7, 2);
-        for (int i = 0; i < 4; i++) {
+        for (int i = 0; i < 6; i++) {
             x.request(17, 1, 0, false);
         }
         alone(x, 0, Kit.packetDown(0, 1, 1, 1, Kit.two(1)));
         alone(x, 1, Kit.packetDown(1, 1, 1, 1, Kit.two(3)));
         x.direct(4, 0);
-        due("SENT", x.became(0, 0), 4);
-        due("ACCEPTED", x.became(1, 0), 5);
-        due("WAITING", x.became(2, 0), 4);
-        due("ACCEPTED", x.became(3, 0), 5);
+        int[] became = {4, 5, 4, 5, 4, 4};
+        for (int i = 0; i < 6; i++) {
+            due(i < 2 ? "SENT" : "WAITING", x.became(i, 0), became[i]);
+        }
     }
 
     private static void sentWhateverItWas() {

@@ -565,6 +565,41 @@ public final class OnBoardBoundsTest extends Trip {
         }
     }
 
+    private static void entriesGoWhereverTheyStand() {
+        Kit.about("6, each tick: by time, whatever was put first; 11, 5: the others stay as they are");
+        CraftHouse x = new CraftHouse();
+        send(x, 0, 11, 1);
+        int[] times = {9, 7, 8};
+        for (int i = 0; i < 3; i++) {
+            byte[] sets = Kit.packetUp(i, 0, 20, 3, Kit.join(b(i == 0 ? 2 : 1, i), Kit.four(times[i]),
+                i == 0 ? Kit.join(b(5), Kit.four(55)) : NOTHING));
+            send(x, 0, 11, 4, b(0), Kit.four(times[i]), sets);
+        }
+        x.tick(6);
+        due("entries", x.entry(NONE, 0), 3);
+        x.tick(1);
+        due("the second", x.parameter(1), 7);
+        due("entries", x.entry(NONE, 0), 2);
+        x.tick(1);
+        due("the third", x.parameter(2), 8);
+        x.tick(1);
+        due("the first", x.parameter(0), 9);
+        due("the first", x.parameter(5), 55);
+        due("REFUSED", x.parameter(18), 0);
+        CraftHouse y = new CraftHouse();
+        send(y, 0, 11, 1);
+        for (int i = 0; i < 3; i++) {
+            byte[] row = i == 0 ? TEST : Kit.packetUp(i, 0, 20, 3, Kit.join(b(1, i), Kit.four(50 + i)));
+            send(y, 0, 11, 4, b(0), Kit.four(9), row);
+        }
+        y.tick(2);
+        act(y, 11, 5, Kit.two(0x123));
+        y.tick(6);
+        due("the second", y.parameter(1), 51);
+        due("the third", y.parameter(2), 52);
+        due("REFUSED", y.parameter(18), 0);
+    }
+
     private static void allEntriesOfATick() {
         Kit.about("6, each tick: all 16 entries of one time go; 7 REQUESTS has 8");
         int[] times = new int[16];
@@ -579,6 +614,29 @@ public final class OnBoardBoundsTest extends Trip {
         due("REFUSED", x.parameter(18), 8);
         due("DONE in the tick", x.parameter(20), done + 4);
         due("REQUESTS", x.craft(6), 4);
+    }
+
+    private static void orderOfATick() {
+        Kit.about("6, EACH TICK: the TICK is one more; the schedule; STRUCTURES; WATCHES; then REQUESTS; then the FRAME down");
+        CraftHouse x = new CraftHouse();
+        act(x, 11, 1);
+        act(x, 11, 4, b(0), Kit.four(9), Kit.packetUp(5, 8, 17, 1, NOTHING));
+        act(x, 3, 1, b(0), Kit.two(5), b(1, 23));
+        act(x, 3, 5, b(0));
+        act(x, 12, 5, watch(0, 1, 0, 0, 1, 0));
+        act(x, 12, 1, b(0));
+        x.tick(2);
+        x.lose(1, 64000);
+        x.sense(1, 5);
+        x.tick(1);
+        due("the FRAME has begun them", x.craft(7), 2);
+        x.tick(2);
+        x.carry(1, 64000);
+        dueKinds("in order", x, 1, 1, 3, 25, 12, 12, 5, 1, 17, 2);
+        for (int i = 0; i < 5; i++) {
+            due("TICK", x.archived(i, 3), 9);
+        }
+        due("PARAMETER 23 in 3, 25", x.shown(23, 1), 9);
     }
 
     // ---- 15 and promise 34
@@ -779,6 +837,17 @@ public final class OnBoardBoundsTest extends Trip {
             }
             due("the STORE keeps them", x.store(0, 2), 3);
         }
+        CraftHouse x = kept(0, 20, 30, 40);
+        act(x, 15, 11, b(0), Kit.four(2));
+        x.tick(5);
+        x.lose(1, 64000);
+        send(x, 0, 15, 9, b(0), Kit.four(0), Kit.four(99));
+        x.tick(4);
+        x.carry(1, 64000);
+        due("one went before: came", x.came(5), 2);
+        due("one went before: BAD ones", x.came(6), 0);
+        due("the newest, bytes", x.archived(0, 5), 40);
+        due("the other, bytes", x.archived(1, 5), 30);
     }
 
     private static void passedIsNotEmpty() {

@@ -52,6 +52,15 @@ public final class PacketBoundsTest extends Trip {
             dueCode(n + " bytes, as told, CHECK is right", 1, Kit.checked(Arrays.copyOf(head, n - 2)));
         }
         dueCode("13 bytes", 0, TEST);
+        // nothing is left from a longer one that came before
+        for (int n = 1; n <= 4; n++) {
+            CraftHouse x = new CraftHouse();
+            bypass(x, Kit.filled(NOTHING, 60, 0xEE));
+            bypass(x, Kit.filled(NOTHING, n, 0xEE));
+            x.tick(1);
+            x.carry(1, 64000);
+            dueReport(n + " bytes behind 60", x, 1, 2, b(n > 2 ? 0xEE : 0, n > 3 ? 0xEE : 0, 1));
+        }
     }
 
     private static void packetsOfOtherLengths() {

@@ -175,6 +175,25 @@ public final class ServiceBoundsTest extends Trip {
         }
     }
 
+    private static void valuesSetAndNoOthers() {
+        Kit.about("6, 20, 3: n x (p, value 4), and nothing behind them");
+        for (int v = 0; v < 400; v++) {
+            byte[] packet = Kit.packetUp(0, 0, 20, 3, pairs(0, v));
+            int behind = packet[packet.length - 2] & 255;
+            // CHECK looks like a p there
+            if (behind >= 1 && behind <= 15) {
+                CraftHouse x = fresh();
+                bypass(x, packet);
+                x.tick(1);
+                due("DONE", x.parameter(20), 1);
+                due("parameter(0)", x.parameter(0), v);
+                for (int p = 1; p < 16; p++) {
+                    due("parameter(" + p + ")", x.parameter(p), 0);
+                }
+            }
+        }
+    }
+
     private static void valuesSetInOrder() {
         Kit.about("6, 20, 3: they become these, in order");
         CraftHouse x = fresh();
@@ -607,6 +626,35 @@ public final class ServiceBoundsTest extends Trip {
         for (int e = 0; e < 32; e++) {
             due("event(" + e + ", 3)", x.event(e, 3), 40);
         }
+    }
+
+    private static void actionsOfSeveralEvents() {
+        Kit.about("6, 19: each event has its own ACTION, whatever others went");
+        CraftHouse x = fresh();
+        for (int e : new int[] {7, 3, 31}) {
+            byte[] sets = Kit.packetUp(1, 0, 20, 3, e == 3 ? pairs(0, 33, 1, 44) : pairs(0, e));
+            act(x, 19, 1, b(e, 1), sets);
+        }
+        int[] sizes = {19, 24, 19};
+        int[] events = {7, 3, 31};
+        for (int i = 0; i < 3; i++) {
+            due("event(.., 1)", x.event(events[i], 1), 1);
+            due("event(.., 2)", x.event(events[i], 2), 1);
+            due("event(.., 3)", x.event(events[i], 3), sizes[i]);
+        }
+        act(x, 19, 2, b(7));
+        due("event(7, 1)", x.event(7, 1), 0);
+        act(x, 8, 1, b(3), Kit.four(31));
+        x.tick(1);
+        due("of 31", x.parameter(0), 31);
+        act(x, 8, 1, b(3), Kit.four(3));
+        x.tick(1);
+        due("of 3", x.parameter(0), 33);
+        due("of 3", x.parameter(1), 44);
+        due("REFUSED", x.parameter(18), 0);
+        act(x, 19, 5, b(31));
+        due("off", x.event(31, 2), 0);
+        due("the other stays on", x.event(3, 2), 1);
     }
 
     private static byte[] raising(int argument) {

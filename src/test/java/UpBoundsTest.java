@@ -27,6 +27,7 @@ public final class UpBoundsTest extends Trip {
     private static void dueFrames(String when, CraftHouse x, int taken, int bad) {
         due(when + ": TAKEN", x.parameter(16), taken);
         due(when + ": BAD", x.parameter(17), bad);
+        due(when + ": looked at, REFUSED or in REQUESTS", x.parameter(18) + x.craft(6), taken);
     }
 
     // ---- the ear
@@ -480,6 +481,8 @@ public final class UpBoundsTest extends Trip {
         dueCraft("all three", x, 8, 1, 1, 1, 0, 16, 8);
         unlock(x);
         dueCraft("none", x, 8, 0, 0, 0, 1, 16, 8);
+        due("it is no packet: made", x.craft(14), 0);
+        due("it is no packet: REFUSED", x.parameter(18), 0);
     }
 
     private static void setUnderLockout() {
@@ -493,10 +496,12 @@ public final class UpBoundsTest extends Trip {
             number(y, i);
         }
         set(x, 255);
-        dueCraft("without LOCKOUT", x, 255, 0, 0, 0, 1);
+        dueCraft("without LOCKOUT", x, 255, 0, 0, 0, 1, 16, 8);
+        due("it is no packet: made", x.craft(14), 0);
         number(y, 100);
         set(y, 255);
-        dueCraft("under LOCKOUT", y, 8, 1, 1, 1, 1);
+        dueCraft("under LOCKOUT", y, 8, 1, 1, 1, 1, 16, 8);
+        due("it is no packet: REFUSED", y.parameter(18), 0);
     }
 
     private static void othersUnderLockout() {
