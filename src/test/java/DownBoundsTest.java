@@ -295,6 +295,17 @@ public final class DownBoundsTest extends Trip {
         dueChannels("in turn", x, 1, 0, 1, 0, 1, 0, 0, 7, 7);
     }
 
+    private static void storedAgainBehindAnIdleFrame() {
+        Kit.about("4 DOWN, the FRAME before was not STORED: nor is it, if an IDLE one came between");
+        CraftHouse x = stored(2);
+        act(x, 15, 9, b(0), range(0, 9999));
+        x.tick(1);
+        send(x, 0, 15, 9, b(0), range(0, 9999));
+        putPacket(x, 60);
+        x.tick(3);
+        dueChannels("STORED, IDLE, then both WANT", x, 1, 7, 1, 0, 0);
+    }
+
     private static void storedThatIsBegun() {
         Kit.about("4 DOWN, STORED WANTS: one that was begun is not wholly sent");
         CraftHouse x = stored(4);

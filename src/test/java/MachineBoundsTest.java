@@ -199,6 +199,17 @@ public final class MachineBoundsTest extends Trip {
         due("BYPASS, HELD", x.request(17, 1, 0, true), 3);
     }
 
+    private static void bypassHasNumberNought() {
+        Kit.about("promise 15, with BYPASS is sent at once in a FRAME with N 0, whatever S is");
+        CraftHouse x = new CraftHouse();
+        x.direct(6, 200);
+        x.direct(0, 0);
+        due("request", x.request(17, 1, 0, true), 0);
+        byte[] unit = Kit.unit(Kit.frame(true, false, 0, Kit.packetUp(0, 0, 17, 1, NOTHING)));
+        Kit.dueBytes("up", Kit.onLine(x, 0, 0, unit.length), unit);
+        dueMachine("the machine is as it was", x, 1, 200, 200, 1, 0, 0, 0, 0, 0, 0);
+    }
+
     // ---- directives
 
     private static void directivesThatAre() {
@@ -502,6 +513,14 @@ public final class MachineBoundsTest extends Trip {
         due("COUNT", x.machine(3), 1);
         x.request(17, 1, 0, false);
         due("COUNT", x.machine(3), 1);
+        CraftHouse y = new CraftHouse();
+        y.direct(8, 1);
+        y.direct(2, 0);
+        y.tick(1);
+        bring(y, 0, 0);
+        dueMachine("the control FRAME was sent twice", y, 1, 0, 0, 2, 0);
+        y.request(17, 1, 0, false);
+        dueMachine("SENT was empty", y, 1, 1, 0, 1, 1);
     }
 
     private static void numbersWrap() {
@@ -721,6 +740,28 @@ public final class MachineBoundsTest extends Trip {
                 String when = "LIMIT " + limit + " in " + state;
                 dueMachine(when, x, 2, 2, 0, repeats ? count + 1 : count, repeats ? 1 : timer, 0, 0, 2, 0, 0);
                 due(when + ": units", x.bits(0), repeats ? 2 * 272 : 0);
+            }
+        }
+    }
+
+    private static void againAtTheLimitIsNoGo() {
+        Kit.about("3, x = A: COUNT is LIMIT or more: STATE 2 (without GO); else REPEAT, STATE 2, GO");
+        for (int limit = 2; limit <= 3; limit++) {
+            CraftHouse x = inState(2);
+            bring(x, AGAIN | WAIT, 0);
+            x.request(17, 1, 0, false);
+            dueMachine("it waits in 3", x, 3, 2, 0, 2, 20, 0, 0, 2, 1, 0);
+            x.direct(9, limit);
+            x.lose(0, 32000);
+            bring(x, AGAIN, 0);
+            if (limit == 2) {
+                dueMachine("it still waits", x, 2, 2, 0, 2, 20, 0, 0, 2, 1, 0);
+                due("nothing is sent", x.bits(0), 0);
+                x.request(17, 1, 0, false);
+                dueMachine("both go with the next GO", x, 2, 4, 0, 2, 20, 0, 0, 4, 0, 0);
+            } else {
+                dueMachine("it goes", x, 2, 3, 0, 3, 20, 0, 0, 3, 0, 0);
+                due("all are sent", x.bits(0), 3 * 272);
             }
         }
     }
