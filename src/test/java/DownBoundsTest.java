@@ -436,6 +436,24 @@ public final class DownBoundsTest extends Trip {
         }
     }
 
+    private static void searchingHasNoMisses() {
+        Kit.about("4 DOWN, SEARCHING: without the mark there are no MISSES and no FRAMES, whatever F is");
+        for (int f = 0; f <= 3; f++) {
+            CraftHouse x = new CraftHouse();
+            x.ear(1, f);
+            Kit.inject(x, 1, Kit.filled(NOTHING, 80, 255));
+            x.tick(1);
+            x.carry(1, 640);
+            due("F " + f + ": LOCKED", x.came(0), 0);
+            due("F " + f + ": MISSES", x.came(1), 0);
+            due("F " + f + ": FRAMES", x.came(2), 0);
+            x.carry(1, 544);
+            due("F " + f + ", then: LOCKED", x.came(0), 1);
+            due("F " + f + ", then: FRAMES", x.came(2), 1);
+            due("F " + f + ", then: BAD ones", x.came(3), 0);
+        }
+    }
+
     private static void missesEnd() {
         Kit.about("4 DOWN, behind a FRAME: at most E others: MISSES 0, else one more");
         for (int e = 0; e <= 3; e++) {
@@ -722,17 +740,20 @@ public final class DownBoundsTest extends Trip {
 
     private static void longPacketsInTwoFrames() {
         Kit.about("4 DOWN, more than 200 bytes in all: its length is in the next FRAME");
-        for (int ahead = 46; ahead <= 51; ahead++) {
-            CraftHouse x = new CraftHouse();
-            byte[] head = Kit.join(Kit.hex("080CC000"), Kit.two(194));
-            byte[] row = Kit.join(idle(ahead), head, SMALL, idle(104 - ahead - 21));
-            down(x, 0, 0, 0, Arrays.copyOf(row, 52));
-            // FIRST points at the packet behind the head; but where the head ends here, what is left is nothing
-            down(x, 0, 1, ahead + 6 - 52, Arrays.copyOfRange(row, 52, 104));
-            int whole = ahead == 46 ? 1 : 0;
-            due("at " + ahead + ": ARCHIVED", x.came(5), whole);
-            down(x, 0, 2, 37, Kit.join(Kit.filled(NOTHING, 37, 255), SMALL));
-            due("at " + ahead + ", then: ARCHIVED", x.came(5), whole + 1);
+        // of the second length the first byte alone tells that it is too long; but both are waited for
+        for (int length : new int[] {201 - 7, 0x0105}) {
+            for (int ahead = 46; ahead <= 51; ahead++) {
+                CraftHouse x = new CraftHouse();
+                byte[] head = Kit.join(Kit.hex("080CC000"), Kit.two(length));
+                byte[] row = Kit.join(idle(ahead), head, SMALL, idle(104 - ahead - 21));
+                down(x, 0, 0, 0, Arrays.copyOf(row, 52));
+                // FIRST points at the packet behind the head; but where the head ends here, what is left is nothing
+                down(x, 0, 1, ahead + 6 - 52, Arrays.copyOfRange(row, 52, 104));
+                int whole = ahead == 46 ? 1 : 0;
+                due("at " + ahead + ": ARCHIVED", x.came(5), whole);
+                down(x, 0, 2, 37, Kit.join(Kit.filled(NOTHING, 37, 255), SMALL));
+                due("at " + ahead + ", then: ARCHIVED", x.came(5), whole + 1);
+            }
         }
     }
 }

@@ -744,6 +744,43 @@ public final class MachineBoundsTest extends Trip {
         }
     }
 
+    private static void nothingIsNoGo() {
+        Kit.about("3, x = A: in 1 nothing (without AGAIN), in 2 nothing (with AGAIN): no GO, though K has grown");
+        for (int state = 1; state <= 2; state++) {
+            CraftHouse x = inState(state);
+            x.direct(7, 2);
+            x.request(17, 1, 0, false);
+            x.direct(7, 3);
+            x.lose(0, 32000);
+            x.tick(1);
+            bring(x, state == 1 ? 0 : AGAIN, 0);
+            dueMachine("in " + state, x, state, 2, 0, state, 19, 0, 0, 2, 1, 0);
+            due("nothing is sent", x.bits(0), 0);
+            bring(x, 0, 1);
+            dueMachine("then", x, 1, 3, 1, 1, 20, 0, 0, 2, 0, 0);
+        }
+    }
+
+    private static void countAboveTheLimit() {
+        Kit.about("3, COUNT is LIMIT or more: with a report, with the TIMER");
+        for (int limit = 1; limit <= 3; limit++) {
+            CraftHouse x = inState(2);
+            x.direct(8, 1);
+            x.tick(20);
+            bring(x, AGAIN | WAIT, 0);
+            dueMachine("COUNT 3", x, 3, 2, 0, 3, 1, 0, 0, 2, 0, 0);
+            x.direct(9, limit);
+            x.lose(0, 32000);
+            if (limit > 1) {
+                bring(x, AGAIN, 0);
+                dueMachine("AGAIN with LIMIT " + limit, x, 2, 2, 0, 3, 1, 0, 0, 2, 0, 0);
+            }
+            x.tick(1);
+            dueMachine("the TIMER with LIMIT " + limit, x, 6, 2, 2, 3, 0, 0, 6, 0, 0, 0);
+            due("nothing is sent", x.bits(0), 0);
+        }
+    }
+
     private static void againAtTheLimitIsNoGo() {
         Kit.about("3, x = A: COUNT is LIMIT or more: STATE 2 (without GO); else REPEAT, STATE 2, GO");
         for (int limit = 2; limit <= 3; limit++) {
