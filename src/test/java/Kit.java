@@ -50,7 +50,7 @@ final class Kit {
                 ran++;
             }
         }
-        System.out.println(ran + " tests of boundary cases");
+        System.out.println(ran + " methods with tests");
         end();
     }
 
