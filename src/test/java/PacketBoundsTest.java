@@ -259,6 +259,36 @@ public final class PacketBoundsTest extends Trip {
         }
     }
 
+    private static void sourcesThatAreAny() {
+        Kit.about("5, a source (two bytes): nothing is told of it, so it is any");
+        for (int source : new int[] {0, 1, 255, 0xFF00, 0xFFFF}) {
+            CraftHouse x = new CraftHouse();
+            from(x, source, 12, 5, watch(5, 3, 1, 9, 1, 4));
+            from(x, source, 15, 1, b(1));
+            from(x, source, 3, 1, b(5, 0, 9, 1, 3));
+            from(x, source, 20, 3, Kit.join(b(1, 15), Kit.four(6)));
+            from(x, source, 5, 6, b(31));
+            from(x, source, 11, 21, b(3));
+            from(x, source, 6, 2, b(0, 1, 1, 99));
+            from(x, source, 19, 1, Kit.join(b(30, 1), TEST));
+            x.tick(2);
+            due("DONE", x.parameter(20), 8);
+            due("watch", x.watch(5, 0), 1);
+            due("store", x.store(1, 1), 1);
+            due("structure", x.structure(5, 2), 9);
+            due("parameter", x.parameter(15), 6);
+            due("event", x.event(31, 0), 0);
+            due("group", x.entry(NONE, 5), 0);
+            due("memory", x.memory(1), 99);
+            due("ACTION", x.event(30, 3), 13);
+        }
+    }
+
+    private static void from(CraftHouse x, int source, int service, int subtype, byte[] data) {
+        byte[] packet = Kit.packetUp(1, 0, service, subtype, data);
+        bypass(x, changed(changed(packet, 9, source >> 8), 10, source));
+    }
+
     private static void countOfTheFirst() {
         Kit.about("5, COUNT down: 0 of the first, one more with each that is made");
         CraftHouse x = new CraftHouse();
