@@ -34,12 +34,14 @@ public final class OnlyThatTest extends Trip {
         rows(all, "parameter", 1, CraftHouse::parameter);
         all.put("parameter(3)", x -> x.parameter(3));
         rows(all, "counted", 8, (x, i) -> x.parameter(16 + i));
-        rows(all, "structure 0", 6, (x, i) -> x.structure(0, i));
-        rows(all, "watch 0", 7, (x, i) -> x.watch(0, i));
+        rows(all, "structure 2", 6, (x, i) -> x.structure(2, i));
+        rows(all, "watch 4", 7, (x, i) -> x.watch(4, i));
         rows(all, "event 3", 4, (x, i) -> x.event(3, i));
+        rows(all, "event 0", 1, (x, i) -> x.event(0, i));
+        rows(all, "event 9", 1, (x, i) -> x.event(9, i));
         rows(all, "schedule", 6, (x, i) -> x.entry(NONE, i));
         rows(all, "entry 0", 3, (x, i) -> x.entry(0, i));
-        rows(all, "store 0", 8, (x, i) -> x.store(0, i));
+        rows(all, "store 1", 8, (x, i) -> x.store(1, i));
         rows(all, "shown 3", 3, (x, i) -> x.shown(3, i));
         rows(all, "newest", 6, (x, i) -> x.archived(0, i));
         rows(all, "code", 4, (x, i) -> x.became(i, 1));
@@ -98,23 +100,26 @@ public final class OnlyThatTest extends Trip {
         send(x, 0, 99, 1);
         send(x, 0, 8, 1, b(1), Kit.four(44));
         send(x, 0, 8, 1, b(3), Kit.four(35));
-        send(x, 0, 3, 1, b(0), Kit.two(50), b(1, 3));
+        send(x, 0, 3, 1, b(2), Kit.two(50), b(1, 3));
         send(x, 0, 8, 1, b(7), Kit.four(0));
         x.tick(1);
-        send(x, 0, 3, 5, b(0));
-        send(x, 0, 12, 5, watch(0, 3, 1, 9, 2, 4));
-        send(x, 0, 12, 1, b(0));
+        send(x, 0, 3, 5, b(2));
+        send(x, 0, 12, 5, watch(4, 3, 1, 9, 2, 4));
+        send(x, 0, 12, 1, b(4));
         send(x, 0, 19, 1, b(3, 1), TEST);
         x.tick(1);
         send(x, 0, 11, 4, b(1), Kit.four(5000), TEST);
         send(x, 0, 11, 1);
-        send(x, 0, 15, 12, b(0, 1));
-        send(x, 0, 15, 3, b(0, 17, 2));
+        send(x, 0, 15, 12, b(1, 1));
+        send(x, 0, 15, 3, b(1, 17, 2));
         x.tick(1);
-        send(x, 0, 15, 1, b(0));
+        send(x, 0, 15, 1, b(1));
         send(x, 0, 20, 3, b(1, 3), Kit.four(5));
         send(x, 0, 20, 1, b(1, 3));
         send(x, 0, 6, 2, Kit.two(7), b(1, 77));
+        x.tick(1);
+        send(x, 0, 5, 6, b(9));
+        send(x, 0, 11, 21, b(3));
         x.tick(1);
         x.carry(1, 64000);
         wornUp(x);
@@ -163,7 +168,7 @@ public final class OnlyThatTest extends Trip {
             x.request(17, 1, 0, false);
         }
         x.lose(0, 32000);
-        send(x, 0, 15, 9, b(0), Kit.four(0), Kit.four(9999));
+        send(x, 0, 15, 9, b(1), Kit.four(0), Kit.four(9999));
         x.tick(1);
         send(x, 0, 17, 1);
         x.request(17, 1, 0, true);
@@ -174,7 +179,7 @@ public final class OnlyThatTest extends Trip {
 
     private static void usedObjects() {
         Kit.about("what the tests of this class begin with: nearly all that can be asked is not 0");
-        String noughts = " machine(5) machine(9) craft(1) craft(2) store 0(4) newest(0) code(0) code(2) code(3)";
+        String noughts = " machine(5) machine(9) craft(1) craft(2) event 9(0) schedule(5) store 1(4) newest(0) code(0) code(2) code(3)";
         StringBuilder found = new StringBuilder();
         CraftHouse x = busy();
         ASKED.forEach((name, ask) -> found.append(ask.applyAsInt(x) == 0 ? " " + name : ""));
@@ -199,6 +204,8 @@ public final class OnlyThatTest extends Trip {
         CraftHouse y = busy();
         byte[] packet = Kit.packetUp(y.requests(), 9, 17, 1, b(1, 2, 3));
         only("build", y, x -> x.build(17, 1, 9), "requests + 1", "taped(0) = 24", "check = " + Kit.checkOf(packet));
+        Kit.dueTape("build", y, packet);
+        due("its code", y.became(y.requests() - 1, 1), 0);
         only("request", busy(), x -> x.request(17, 1, 9, false), join(EMPTY_TAPE, "requests + 1", "machine(8) + 1"));
         // 16 bytes of a packet, 23 of a frame: four blocks
         only("BYPASS", busy(), x -> x.request(17, 1, 9, true), join(EMPTY_TAPE, "requests + 1", "bits(0) + 336"));
@@ -242,6 +249,51 @@ public final class OnlyThatTest extends Trip {
             "machine(8) = 0"};
     }
 
+    private static void asking() {
+        Kit.about("what calls that ask change: nothing");
+        only("of requests", busy(), x -> {
+            for (int i = 0; i < 4; i++) {
+                x.became(x.requests() - 1, i);
+            }
+        });
+        only("of what came", busy(), x -> {
+            x.archivedByte(0, 0);
+            x.archived(1, 3);
+            x.shown(4, 0);
+        });
+        only("of lines", busy(), x -> {
+            x.bit(0, 0);
+            x.bit(1, 9);
+        });
+    }
+
+    private static void beginningsAnswered() {
+        Kit.about("3 THE GROUND'S MACHINE: what a REPORT changes in 4 and 5");
+        for (int directive = 1; directive <= 2; directive++) {
+            CraftHouse x = worn();
+            x.direct(directive, 0);
+            brought("in " + (directive + 3), with(x, 7, 0, FIVES, b(1, 0, 0, 200)), report(0, 200, "machine(0) = 1", "machine(4) = 0"));
+        }
+    }
+
+    private static void held() {
+        Kit.about("3 THE GROUND'S MACHINE: what the TIMER's end changes with KIND 1, and calls while HOLD is 1");
+        CraftHouse x = worn();
+        x.direct(8, 1);
+        x.direct(9, 1);
+        x.direct(0, 0);
+        x.request(17, 1, 0, false);
+        only("the TIMER ends", x, each -> each.tick(1), "machine(0) = 6", "machine(4) = 0", "machine(5) = 1", "counted(7) + 1",
+            "bits(1) + 544", "craft(7) ?", "structure 2(3) - 1", "watch 4(6) + 1");
+        CraftHouse y = worn();
+        y.direct(8, 1);
+        y.direct(9, 1);
+        y.direct(0, 0);
+        y.request(17, 1, 0, false);
+        y.tick(1);
+        only("BYPASS", y, each -> each.request(17, 1, 0, true), "requests + 1", "bits(0) + 272");
+    }
+
     // ---- a unit comes up
 
     /** B is one more, a unit was begun, the line is empty. */
@@ -270,6 +322,7 @@ public final class OnlyThatTest extends Trip {
         CraftHouse set = with(worn(), Kit.frame(true, true, 0, b(0x82, 0, 77)));
         raised("SET", set, unitWithB(set, "craft(0) = 77", "craft(3) = 0"));
         raised("BAD", with(worn(), Kit.frame(false, true, 0, b(0))), unit("counted(1) + 1"));
+        raised("BAD, too long", with(worn(), b(0, 0xAB, 0, 200, 0, 0, 0)), unit("counted(1) + 1"));
         CraftHouse locked = worn();
         number(locked, 100);
         raised("SET, LOCKOUT", with(locked, Kit.frame(true, true, 0, b(0x82, 0, 77))), unitWithB(locked));
@@ -383,24 +436,24 @@ public final class OnlyThatTest extends Trip {
         send(x, 0, service, subtype, data);
         boolean done = service != 8 || data[0] != 2;
         only(what, x, each -> each.tick(1), join(changes, "counted(7) + 1", done ? "counted(4) + 1" : "counted(3) + 1", "bits(1) + 544",
-            "craft(6) = 0", "craft(7) ?", "structure 0(3) - 1", service == 12 ? "watch 0(6) ?" : "watch 0(6) + 1"));
+            "craft(6) = 0", "craft(7) ?", "structure 2(3) - 1", service == 12 ? "watch 4(6) ?" : "watch 4(6) + 1"));
     }
 
     private static void services() {
         Kit.about("6 SERVICES: what a request changes, and a tick");
-        ticked("17, 1", 17, 1, NOTHING, "craft(14) + 1", "store 0(2) + 1", "store 0(3) + 15", "store 0(7) ?");
+        ticked("17, 1", 17, 1, NOTHING, "craft(14) + 1", "store 1(2) + 1", "store 1(3) + 15", "store 1(7) ?");
         ticked("20, 3", 20, 3, Kit.join(b(1, 3), Kit.four(6)), "parameter(3) = 6");
         ticked("20, 1", 20, 1, b(1, 3), "craft(14) + 1");
         ticked("6, 2", 6, 2, b(0, 7, 1, 78), "memory(7) = 78");
         ticked("6, 9", 6, 9, b(0, 7, 0, 1), "craft(14) + 1");
-        ticked("3, 6", 3, 6, b(0), "structure 0(1) = 0");
-        ticked("3, 27", 3, 27, b(0), "craft(14) + 1");
+        ticked("3, 6", 3, 6, b(2), "structure 2(1) = 0");
+        ticked("3, 27", 3, 27, b(2), "craft(14) + 1");
         ticked("5, 6", 5, 6, b(3), "event 3(0) = 0");
         ticked("8, 1, 0", 8, 1, Kit.join(b(0), Kit.four(6)));
         ticked("8, 1, 1", 8, 1, Kit.join(b(1), Kit.four(6)), "parameter(0) = 6");
         ticked("8, 1, 2", 8, 1, Kit.join(b(2), Kit.four(6)), "craft(14) + 1");
         ticked("8, 1, 3", 8, 1, Kit.join(b(3), Kit.four(7)), "craft(14) + 1", "counted(6) + 1");
-        ticked("12, 2", 12, 2, b(0), "watch 0(0) = 1");
+        ticked("12, 2", 12, 2, b(4), "watch 4(0) = 1");
         ticked("12, 13", 12, 13, NOTHING, "craft(14) + 1");
         ticked("19, 2", 19, 2, b(3), "event 3(1) = 0", "event 3(2) = 0", "event 3(3) = 0");
         ticked("19, 5", 19, 5, b(3), "event 3(2) = 0");
@@ -413,8 +466,264 @@ public final class OnlyThatTest extends Trip {
         ticked("11, 15", 11, 15, Kit.four(6), "entry 0(0) + 6");
         ticked("11, 16", 11, 16, NOTHING, "craft(14) + 1");
         ticked("11, 21", 11, 21, b(2), "schedule(4) = 0");
-        ticked("15, 2", 15, 2, b(0), "store 0(1) = 0");
-        ticked("15, 3", 15, 3, b(0, 1, 1), "store 0(5) + 1");
-        ticked("15, 11", 15, 11, Kit.join(b(0), Kit.four(9999)), "store 0(2) = 0", "store 0(3) = 0", "store 0(6) = -2", "store 0(7) = -2");
+        ticked("15, 2", 15, 2, b(1), "store 1(1) = 0");
+        ticked("15, 3", 15, 3, b(1, 1, 1), "store 1(5) + 1");
+        ticked("15, 9", 15, 9, Kit.join(b(1), Kit.four(0), Kit.four(9999)), "craft(8) = " + (worn().store(1, 2) - 4));
+        ticked("15, 11", 15, 11, Kit.join(b(1), Kit.four(9999)), "store 1(2) = 0", "store 1(3) = 0", "store 1(6) = -2", "store 1(7) = -2");
+    }
+
+    // ---- used objects go on as new ones do
+
+    /** With an ALARM, KIND 1, LIMIT 5, S and A 7; TIME 9. */
+    private static CraftHouse usedMachine() {
+        CraftHouse x = new CraftHouse();
+        for (int[] each : new int[][] {{1, 0}, {4, 0}, {6, 7}, {10, 1}, {9, 5}, {8, 9}, {0, 0}}) {
+            x.direct(each[0], each[1]);
+        }
+        return x;
+    }
+
+    private static void dueUnit(String what, CraftHouse x, byte[] frame) {
+        byte[] unit = Kit.unit(frame);
+        due(what + ": bits", x.bits(0), 8 * unit.length);
+        Kit.dueBytes(what, Kit.onLine(x, 0, 0, unit.length), unit);
+    }
+
+    private static void framesOfUsedMachines() {
+        Kit.about("3 THE GROUND'S MACHINE: the FRAMES of one that has been used");
+        CraftHouse number = usedMachine();
+        number.request(17, 1, 0, false);
+        dueUnit("N 7", number, Kit.frame(false, false, 7, Kit.packetUp(0, 0, 17, 1, NOTHING)));
+        CraftHouse bypass = usedMachine();
+        bypass.request(17, 1, 0, false);
+        bypass.lose(0, 32000);
+        bypass.request(17, 1, 0, true);
+        dueUnit("BYPASS", bypass, Kit.frame(true, false, 0, Kit.packetUp(1, 0, 17, 1, NOTHING)));
+        CraftHouse control = usedMachine();
+        control.direct(4, 0);
+        control.direct(2, 0);
+        dueUnit("UNLOCK", control, Kit.frame(true, true, 0, b(0)));
+        CraftHouse held = usedMachine();
+        held.direct(9, 1);
+        held.request(17, 1, 0, false);
+        held.tick(9);
+        held.lose(0, 32000);
+        due("HOLD", held.machine(5), 1);
+        held.request(17, 1, 0, true);
+        dueUnit("BYPASS, HELD", held, Kit.frame(true, false, 0, Kit.packetUp(1, 0, 17, 1, NOTHING)));
+        due("HOLD stays", held.machine(5), 1);
+        held.tick(1);
+        due("HOLD stays", held.machine(5), 1);
+    }
+
+    private static void acknowledgedByUsedMachines() {
+        Kit.about("3 THE GROUND'S MACHINE: CLEAR of one that has been used");
+        CraftHouse x = usedMachine();
+        for (int i = 0; i < 3; i++) {
+            x.request(17, 1, 0, false);
+        }
+        bring(x, AGAIN, 7);
+        dueMachine("REPEAT", x, 2, 10, 7, 2, 9, 0, 7, 3, 0, 0);
+        bring(x, 0, 8);
+        dueMachine("one", x, 1, 10, 8, 1, 9, 0, 7, 2, 0, 0);
+        due("became(0, 0)", x.became(0, 0), 3);
+        due("became(1, 0)", x.became(1, 0), 2);
+        bring(x, 0, 10);
+        dueMachine("all: the TIMER is off", x, 1, 10, 10, 1, 0, 0, 7, 0, 0, 0);
+        due("became(1, 0)", x.became(1, 0), 3);
+        due("became(2, 0)", x.became(2, 0), 3);
+    }
+
+    private static void manyOfUsedMachines() {
+        Kit.about("3 THE GROUND'S MACHINE, GO: all 32 are sent, though the TIMER was on; COUNT stays, SENT was not empty");
+        CraftHouse x = usedMachine();
+        x.direct(7, 1);
+        x.direct(8, 1000);
+        for (int i = 0; i < 33; i++) {
+            x.request(17, 1, 0, false);
+        }
+        bring(x, AGAIN, 7);
+        x.direct(7, 32);
+        x.request(17, 1, 0, false);
+        dueMachine("no room", x, 2, 8, 7, 2, 1000, 0, 7, 1, 32, 0);
+        bring(x, 0, 7);
+        due("ALARM 3", x.machine(6), 3);
+        CraftHouse y = usedMachine();
+        y.direct(7, 1);
+        y.direct(8, 1000);
+        for (int i = 0; i < 33; i++) {
+            y.request(17, 1, 0, false);
+        }
+        y.direct(7, 32);
+        y.lose(0, 32000);
+        bring(y, AGAIN, 7);
+        dueMachine("all go", y, 2, 39, 7, 2, 1000, 0, 7, 32, 1, 0);
+        due("units", y.bits(0), 32 * 272);
+    }
+
+    private static void marksOfUsedEars() {
+        Kit.about("2 UP, 4 DOWN: the latest bits since it is SEARCHING, of ears that have been used");
+        CraftHouse x = worn();
+        Kit.inject(x, 0, Kit.hex("EB90"));
+        x.slip(0, 0);
+        only("15 bits of EB 90", x, each -> each.carry(0, 15), "bits(0) = 0");
+        for (int what = 0; what <= 1; what++) {
+            CraftHouse y = new CraftHouse();
+            y.tick(1);
+            y.carry(1, 20);
+            y.ear(what, 0);
+            y.carry(1, 11);
+            due("31 bits", y.came(0), 0);
+            y.carry(1, 1);
+            due("32 bits: LOCKED", y.came(0), 1);
+            y.carry(1, 300);
+            y.ear(what, 0);
+            y.carry(1, 211);
+            due("511 bits", y.came(2), 0);
+            y.carry(1, 1);
+            due("512 bits", y.came(2), 1);
+            due("BAD ones", y.came(3), 0);
+        }
+        CraftHouse z = new CraftHouse();
+        z.request(17, 1, 0, true);
+        z.carry(0, 10);
+        z.tick(1);
+        z.carry(0, 100);
+        z.tick(1);
+        z.carry(0, 32000);
+        due("TAKEN", z.parameter(16), 1);
+        due("BAD ones", z.parameter(17), 0);
+    }
+
+    private static void missesOfUsedEars() {
+        Kit.about("4 DOWN, more MISSES than F: SEARCHING, MISSES 0: what that changes");
+        CraftHouse x = worn();
+        x.tick(2);
+        x.ear(1, 1);
+        x.turn(1, 0);
+        x.turn(1, 1);
+        only("one too many", x, each -> each.carry(1, 32), "bits(1) - 32", "came(0) = 0", "came(1) = 0");
+    }
+
+    private static void packetsOnUsedGrounds() {
+        Kit.about("7 THE GROUND: of one to which a BAD packet came, and that made requests");
+        CraftHouse x = new CraftHouse();
+        x.build(17, 1, 0);
+        x.wipe();
+        alone(x, 0, Kit.hex("080CC000000000"));
+        alone(x, 1, Kit.packetDown(0, 20, 2, 5, Kit.join(b(1, 3), Kit.four(-8))));
+        due("MISSING, the first", x.came(7), 0);
+        alone(x, 2, Kit.packetDown(5, 20, 2, 4, Kit.join(b(1, 3), Kit.four(-9))));
+        due("MISSING, 1 to 4", x.came(7), 4);
+        due("SHOWN, of a later TICK", x.shown(3, 1), -8);
+        due("SHOWN, its TICK", x.shown(3, 2), 5);
+        alone(x, 3, Kit.packetDown(6, 20, 2, 5, Kit.join(b(1, 3), Kit.four(-10))));
+        due("SHOWN, of the same TICK", x.shown(3, 1), -10);
+        due("MISSING", x.came(7), 4);
+    }
+
+    private static void archivesOfUsedGrounds() {
+        Kit.about("7 THE GROUND, ARCHIVED (the latest 40 are kept), where a BAD packet came and some are MISSING");
+        CraftHouse x = new CraftHouse();
+        alone(x, 255, Kit.hex("080CC000000000"));
+        act(x, 3, 1, b(0), Kit.two(1), b(1, 23));
+        act(x, 3, 5, b(0));
+        x.tick(3);
+        x.carry(1, 64000);
+        x.tick(1);
+        x.lose(1, 544);
+        x.tick(60);
+        x.carry(1, 64000);
+        due("MISSING", x.came(7), 1);
+        due("BAD ones", x.came(6), 1);
+        int newest = x.archived(0, 4);
+        for (int i = 0; i < 40; i++) {
+            due("COUNT of " + i, x.archived(i, 4), newest - i);
+        }
+        due("no more", x.archived(40, 4), BAD);
+    }
+
+    private static void idlePacketsOfUsedCrafts() {
+        Kit.about("4 DOWN, an IDLE PACKET: bytes 00, of a craft that has lost packets of LIVE");
+        CraftHouse x = new CraftHouse();
+        for (int i = 0; i < 8; i++) {
+            ask(x, 17, 1);
+        }
+        x.tick(2);
+        due("lost", x.craft(9) > 0 ? 1 : 0, 1);
+        x.tick(60);
+        x.lose(1, 64000);
+        act(x, 17, 1);
+        // what was over of the idle packet before stands ahead
+        int first = partAt(x, 0, 5, 6)[0];
+        Kit.dueBytes("its bytes", partAt(x, 0, 6 + first + 15, 58), idle(37 - first));
+    }
+
+    private static void servicesWithAnEventOff() {
+        Kit.about("6 SERVICES: with an event and a group that are off all others are as ever");
+        CraftHouse x = new CraftHouse();
+        act(x, 5, 6, b(9));
+        act(x, 11, 21, b(3));
+        dueDone("a p that is none", 10, x, 20, 1, b(2, 3, 24));
+        dueDone("a p above 15", 10, x, 20, 3, Kit.join(b(2, 3), Kit.four(77), b(16), Kit.four(1)));
+        dueDone("", 0, x, 20, 3, Kit.join(b(2, 3), Kit.four(77), b(5), Kit.four(-1)));
+        dueDone("", 0, x, 20, 1, b(2, 5, 3));
+        dueReport("20, 2", x, 20, 2, Kit.join(b(2, 5), Kit.four(-1), b(3), Kit.four(77)));
+        dueReport("1, 1", x, 1, 1, Kit.two(0xC000 | x.requests() - 1));
+        dueReport("1, 3", x, 1, 3, Kit.two(0xC000 | x.requests() - 1));
+        dueReport("1, 7", x, 1, 7, Kit.two(0xC000 | x.requests() - 1));
+        dueDone("a p that is none", 10, x, 3, 1, b(5, 0, 1, 2, 3, 24));
+        dueDone("", 0, x, 3, 1, b(5, 0, 9, 2, 3, 5));
+        dueStructure(x, 5, 1, 0, 9, 0, 2, 3, 5);
+        dueDone("it is there", 13, x, 3, 1, b(5, 0, 9, 2, 3, 5));
+        dueDone("", 0, x, 3, 5, b(5));
+        dueDone("it is on", 13, x, 3, 3, b(5));
+        dueDone("", 0, x, 3, 27, b(5));
+        dueReport("3, 25", x, 3, 25, Kit.join(b(5, 2, 3), Kit.four(77), b(5), Kit.four(-1)));
+        dueDone("", 0, x, 3, 6, b(5));
+        dueDone("", 0, x, 3, 3, b(5));
+        dueStructure(x, 5, 0, BAD);
+        dueDone("beyond", 11, x, 6, 2, b(4, 0, 1, 9));
+        dueDone("protected", 12, x, 6, 2, b(3, 0, 1, 9));
+        dueDone("no such function", 15, x, 8, 1, Kit.join(b(4), Kit.four(0)));
+        dueDone("", 0, x, 8, 1, Kit.join(b(3), Kit.four(40)));
+        dueReport("5, 2", x, 5, 2, Kit.join(b(8), Kit.four(40)));
+        dueDone("none such", 14, x, 5, 5, b(32));
+    }
+
+    private static void watchesWithAnEventOff() {
+        Kit.about("6 SERVICES 12, 19, 11, 15: with an event and a group that are off all others are as ever");
+        CraftHouse x = new CraftHouse();
+        act(x, 5, 6, b(9));
+        act(x, 11, 21, b(3));
+        dueDone("times 0", 18, x, 12, 5, watch(5, 3, 1, 9, 0, 4));
+        dueDone("", 0, x, 12, 5, watch(5, 3, 1, 9, 200, 4));
+        dueDone("it is there", 17, x, 12, 5, watch(5, 3, 1, 9, 2, 4));
+        dueWatch(x, 5, 1, 3, 1, 9, 200, 4, 0);
+        dueDone("", 0, x, 12, 1, b(5));
+        dueDone("it is on", 17, x, 12, 6, b(5));
+        dueDone("", 0, x, 12, 13);
+        dueReport("12, 14", x, 12, 14, b(0, 0, 0, 0, 0, 2));
+        dueDone("", 0, x, 12, 2, b(5));
+        dueWatch(x, 5, 1, 3, 1, 9, 200, 4, 0);
+        dueDone("", 0, x, 12, 6, b(5));
+        dueDone("not there", 17, x, 12, 1, b(5));
+        dueDone("none such", 14, x, 19, 1, b(32, 1), TEST);
+        dueDone("", 0, x, 19, 1, b(8, 0), TEST);
+        dueDone("it has none", 19, x, 19, 4, b(7));
+        dueDone("no such group", 20, x, 11, 4, b(4), Kit.four(9999), TEST);
+        dueDone("", 0, x, 11, 4, b(2), Kit.four(9999), TEST);
+        due("its group", x.entry(0, 1), 2);
+        dueDone("no entry", 23, x, 11, 5, Kit.two(0x124));
+        dueDone("too early", 21, x, 11, 15, Kit.four(-9990));
+        dueDone("", 0, x, 11, 5, Kit.two(0x123));
+        due("entries", x.entry(NONE, 0), 0);
+        dueDone("no such group", 20, x, 11, 20, b(4));
+        dueDone("", 0, x, 11, 20, b(3));
+        due("the group", x.entry(NONE, 5), 1);
+        dueDone("no such store", 24, x, 15, 1, b(2));
+        dueDone("", 0, x, 15, 3, b(1, 17, 2));
+        due("chosen", x.store(1, 5), 1);
+        due("event 9", x.event(9, 0), 0);
     }
 }
