@@ -454,6 +454,38 @@ public final class DownBoundsTest extends Trip {
         }
     }
 
+    private static void framesBehindMissedMarks() {
+        Kit.about("4 DOWN, else the 512 behind are a FRAME: one like any other, with its REPORT and its packets");
+        CraftHouse x = new CraftHouse();
+        x.ear(0, 3);
+        x.ear(1, 3);
+        send(x, 15, 17, 1);
+        x.tick(4);
+        for (int i = 1; i < 4; i++) {
+            for (int k = 0; k < 4; k++) {
+                x.turn(1, 544 * i + 8 * k);
+            }
+        }
+        for (int i = 0; i < 4; i++) {
+            x.carry(1, 544);
+            due("MISSES", x.came(1), i);
+            due("FRAMES", x.came(2), i + 1);
+            due("REPORTS", x.came(8), i + 1);
+        }
+        due("packets", x.came(5), 4);
+        CraftHouse y = new CraftHouse();
+        y.ear(0, 3);
+        y.ear(1, 3);
+        down(y, 0, 0, 0, idle(52));
+        Kit.inject(y, 1, Kit.filled(NOTHING, 4, 0));
+        byte[] frame = Kit.frameDown(0, 0, 2, 0, Kit.join(SMALL, idle(37)), Kit.bytes(1, 0, 0, 0));
+        Kit.inject(y, 1, Arrays.copyOfRange(frame, 4, 68));
+        y.carry(1, 64000);
+        due("MISSES", y.came(1), 1);
+        due("GAPS", y.came(4), 1);
+        due("packets", y.came(5), 1);
+    }
+
     private static void missesEnd() {
         Kit.about("4 DOWN, behind a FRAME: at most E others: MISSES 0, else one more");
         for (int e = 0; e <= 3; e++) {

@@ -288,6 +288,17 @@ public final class UpBoundsTest extends Trip {
         due("V", x.craft(0), 1);
     }
 
+    private static void framesOfOneUnitAreAlike() {
+        Kit.about("2 UP, then the rest likewise; 6, a DEPTH 0 for what comes of FRAMES, wherever they stand in a unit");
+        byte[] function = Kit.packetUp(1, 0, 8, 1, Kit.join(b(3), Kit.four(1)));
+        CraftHouse x = new CraftHouse();
+        act(x, 19, 1, b(1, 1), TEST);
+        raise(x, Kit.frame(true, false, 0, function), Kit.frame(true, false, 0, function), Kit.frame(true, false, 0, function));
+        due("REQUESTS", x.craft(6), 3);
+        x.tick(1);
+        due("their ACTIONS", x.craft(6), 3);
+    }
+
     private static void framesWithOtherFixedBits() {
         Kit.about("2 UP, BAD: the fixed bits are others");
         for (int bit = 4; bit < 22; bit++) {
