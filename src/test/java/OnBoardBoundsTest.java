@@ -740,6 +740,27 @@ public final class OnBoardBoundsTest extends Trip {
         return x;
     }
 
+    private static void lostOnesStayCounted() {
+        Kit.about("6, 15, 12: none lost; of all other requests none is told to change how many are lost");
+        int[] sizes = new int[16];
+        Arrays.fill(sizes, 80);
+        CraftHouse x = kept(0, sizes);
+        dueStore(x, 0, 0, 1, 15, 1200, 1, 1, 2, 16);
+        act(x, 15, 2, b(0));
+        dueStore(x, 0, 0, 0, 15, 1200, 1, 1, 2, 16);
+        act(x, 15, 1, b(0));
+        act(x, 15, 3, b(0, 1, 1));
+        dueStore(x, 0, 0, 1, 15, 1200, 1, 2, 2, 16);
+        act(x, 15, 9, b(0), Kit.four(0), Kit.four(9999));
+        dueStore(x, 0, 0, 1, 15, 1200, 1, 2, 2, 16);
+        act(x, 15, 11, b(0), Kit.four(2));
+        dueStore(x, 0, 0, 1, 14, 1120, 1, 2, 3, 16);
+        act(x, 15, 11, b(0), Kit.four(9999));
+        dueStore(x, 0, 0, 1, 0, 0, 1, 2, NONE, NONE);
+        act(x, 15, 12, b(1, 1));
+        due("of the other STORE", x.store(0, 4), 1);
+    }
+
     private static void boundedStores() {
         Kit.about("6, a STORE has 1200 bytes. BOUNDED: if it has room, else it is lost (counted)");
         // 14 of 80 are 1120
